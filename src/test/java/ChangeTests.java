@@ -276,6 +276,17 @@ final class ChangeTests {
         Check.fails(Check.STATE, porter::undo);
     }
 
+    static void promise58UndoOfASoak() {
+        NightPorter porter = Check.loaded("night 3 0;guest a 9;");
+        porter.leave(0);
+        porter.passMinutes(2);
+        porter.passMinutes(4);
+        porter.undo();
+        Check.same(6, porter.soak(0));
+        porter.undo();
+        Check.same(0, porter.soak(0));
+    }
+
     static void promise58UndoTheLatestEight() {
         NightPorter porter = new NightPorter();
         for (int limit = 0; limit < 13; limit++) {
@@ -374,6 +385,23 @@ final class ChangeTests {
         Check.same(later, Check.state(porter));
         Check.same(65, porter.restoreSnapshot(1));
         Check.same(2, porter.walkDog(0));
+    }
+
+    static void promise60RestoredRegister() {
+        NightPorter porter = new NightPorter();
+        porter.saveSnapshot(0);
+        porter.passMinutes(2);
+        porter.leave(0);
+        porter.comeBack(0);
+        porter.saveSnapshot(1);
+        String saved = Check.state(porter);
+        porter.restoreSnapshot(0);
+        porter.passMinutes(3);
+        porter.leave(2);
+        porter.leave(1);
+        porter.restoreSnapshot(1);
+        Check.same(saved, Check.state(porter));
+        Check.same("-2\n+2\n", Check.written(porter, 0));
     }
 
     static void promise60RestoredAlibis() {

@@ -173,6 +173,38 @@ final class GuestTests {
         failsWithoutSuchGuest(porter::wouldBark);
     }
 
+    static void promise24KeysOfAFullHouse() {
+        NightPorter porter = Check.loaded("night 1 999;");
+        for (int guest = 0; guest < 10; guest++) {
+            Check.addGuest(porter, "name" + (char) ('a' + guest), 9, 1);
+        }
+        for (int umbrella = 0; umbrella < 12; umbrella++) {
+            porter.addUmbrella(umbrella / 5, umbrella % 3);
+        }
+        for (int guest = 0; guest < 10; guest++) {
+            Check.same(guest + 1, porter.leave(guest));
+        }
+        porter.passMinutes(12);
+        Check.same(20, porter.noise());
+        Check.same(10, porter.keysAtDesk());
+        Check.same(2, porter.standCount());
+        Check.same(7, porter.borrowedCount());
+        Check.same(10, porter.suspects(0, 11));
+        Check.fails(Check.NO_SUCH, () -> porter.culprit(0, 11));
+        Check.same(12.0, porter.meanMinutesOut());
+        Check.same(1.0f, porter.shareOut());
+        Check.same(0, porter.complaintsAfter(60));
+        for (int guest = 0; guest < 10; guest++) {
+            Check.same(9, porter.comeBack(guest));
+            Check.fails(Check.NO_SUCH, () -> porter.umbrellaOf(0));
+        }
+        porter.passMinutes(30);
+        Check.same(12, porter.standCount());
+        Check.same("namej", Check.name(porter, 9));
+        Check.type(porter, "namek");
+        Check.fails(Check.NO_SUCH, porter::guestOfInput);
+    }
+
     static void promise25WouldBarkAtTheEndOfTheNight() {
         NightPorter porter = new NightPorter();
         porter.passMinutes(240);

@@ -275,6 +275,27 @@ final class InputTests {
         error(21, HEAD + "guest ann dog 5;");
     }
 
+    static void promise6SemicolonTooEarly() {
+        error(0, ";");
+        error(6, "night ;");
+        error(8, "night 2 ;");
+        error(16, HEAD + "guest;");
+        error(20, HEAD + "guest ann;");
+        error(26, HEAD + "guest ann 5 dog;");
+        error(31, HEAD + "guest ann 5;umbrella;");
+        error(35, HEAD + "guest ann 5;umbrella ann;");
+        error(38, HEAD + "guest ann 5;umbrella ann 0;;");
+    }
+
+    static void promise6TextOf600Bytes() {
+        String blanks = " ".repeat(589);
+        Check.same(0, Check.loaded(HEAD + blanks).guestCount());
+        error(600, HEAD + blanks.substring(5) + "guest");
+        error(600, "night" + " ".repeat(592) + "2 9");
+        error(11, HEAD + "a".repeat(589));
+        error(6, "night " + "1".repeat(594));
+    }
+
     static void promise6InvalidTokens() {
         error(5, "night\t2 90;");
         error(5, "night\r2 90;");

@@ -82,6 +82,14 @@ final class PredictionTests {
         Check.fails(Check.ARGUMENT, () -> porter.complaintsAfter(Integer.MAX_VALUE));
     }
 
+    static void promise49EachHourHasItsOwnNoise() {
+        NightPorter porter = Check.loaded("night 0 60;guest a 1 dog 1;");
+        porter.leave(0);
+        Check.same(0, porter.complaintsAfter(240));
+        porter.setNoiseLimit(59);
+        Check.same(3, porter.complaintsAfter(240));
+    }
+
     static void promise49ComplaintsAfterTheEndOfTheNight() {
         NightPorter porter = new NightPorter();
         porter.passMinutes(240);
