@@ -15,7 +15,8 @@ final class PredictionTests {
 
     static void promise47UmbrellaForDriestElse() {
         NightPorter porter = Check.loaded(
-            "night 1 0;guest a 1;guest b 1;guest c 1;umbrella a 51;umbrella b 9;umbrella b 7;umbrella b 7;umbrella b 51;");
+            "night 1 0;guest a 1;guest b 1;guest c 1;"
+                + "umbrella a 51;umbrella b 9;umbrella b 7;umbrella b 7;umbrella b 51;");
         Check.same(2, porter.umbrellaFor(0));
         porter.leave(0);
         Check.same(3, porter.umbrellaFor(2));
