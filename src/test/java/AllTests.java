@@ -7,8 +7,10 @@ import java.util.Comparator;
 public final class AllTests {
     private static final int PROMISES = 62;
     private static final Class<?>[] TESTS = {
-        InputTests.class, NightTests.class, GuestTests.class, UmbrellaTests.class, RegisterTests.class,
-        PredictionTests.class, ChangeTests.class, WritingTests.class, FaceTests.class, RandomRuns.class};
+        InputTests.class, TextTests.class, NightTests.class, GuestTests.class, UmbrellaTests.class,
+        RegisterTests.class, AlibiTests.class, PredictionTests.class, AddingTests.class, ComingAndGoingTests.class,
+        SettingTests.class, UndoTests.class, SnapshotTests.class, WritingTests.class, FaceTests.class,
+        RandomRuns.class};
 
     private static final boolean[] TESTED = new boolean[PROMISES + 1];
     private static int passed = 0;

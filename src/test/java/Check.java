@@ -1,5 +1,6 @@
 import java.util.ArrayList;
 import java.util.List;
+import java.util.function.IntConsumer;
 
 /** What the tests share: comparing answers, waiting for exceptions, and putting a text into the input buffer. */
 final class Check {
@@ -52,6 +53,28 @@ final class Check {
             return;
         }
         throw new AssertionError("threw nothing, due is " + due);
+    }
+
+    /** The first numbers that a range refuses on either side, and far ones. */
+    static int[] outside(int least, int most) {
+        return new int[] {least - 1, most + 1, least - 60, most + 60, -1000000, 1000000, Integer.MIN_VALUE,
+            Integer.MAX_VALUE};
+    }
+
+    /** The call must know the numbers from 0 to the count minus 1 (or throw another exception there) and no others. */
+    static void failsOutside(int count, IntConsumer call) {
+        for (int number : outside(0, count - 1)) {
+            fails(INDEX, () -> call.accept(number));
+        }
+        for (int number = 0; number < count; number++) {
+            try {
+                call.accept(number);
+            } catch (IndexOutOfBoundsException thrown) {
+                throw new AssertionError("threw " + thrown + " for " + number);
+            } catch (IllegalStateException | java.util.NoSuchElementException thrown) {
+                continue;
+            }
+        }
     }
 
     /** Makes the text, whose signs stand for bytes, the whole input buffer. */

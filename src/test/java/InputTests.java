@@ -1,122 +1,336 @@
-/** Promises 1 to 6: a new object, the input buffer, and the text format. */
+/** Promises 1 to 5: a new object, the input buffer, and load. What a text may hold is tested by TextTests. */
 final class InputTests {
-    private static final String HEAD = "night 2 90;";
+    private static final int BLANKS = 0x20202020;
 
     private InputTests() {
     }
 
-    static void promise1NewObject() {
+    private static NightPorter withInput(int length) {
         NightPorter porter = new NightPorter();
+        for (int appended = 0; appended < length; appended += 20) {
+            appendBlanks(porter);
+        }
+        porter.shorten(length);
+        return porter;
+    }
+
+    private static int appendBlanks(NightPorter porter) {
+        return porter.append(BLANKS, BLANKS, BLANKS, BLANKS, BLANKS);
+    }
+
+    // Promise 1
+
+    static void promise1StandsAsFromItsText() {
         Check.same("[0, 2, 90, 0, 0, 0, 0, 0, 0,"
             + " guest, ann, 5, 4, false, 0, false, 0, guest, bob, 8, 0, false, 0, false, 0,"
             + " guest, cleo, 3, 0, false, 0, false, 0,"
-            + " umbrella, 0, 60, true, umbrella, 1, 10, true, umbrella, 1, 0, true]", Check.state(porter));
-        Check.same(0, porter.entryCount());
-        Check.no(porter.hasError());
+            + " umbrella, 0, 60, true, umbrella, 1, 10, true, umbrella, 1, 0, true]", Check.state(new NightPorter()));
+        Twins.alike(() -> Check.loaded(Nights.FIRST_TEXT), NightPorter::new);
+    }
+
+    static void promise1InputBufferIsEmpty() {
+        NightPorter porter = new NightPorter();
         Check.fails(Check.ARGUMENT, () -> porter.shorten(1));
-        Check.fails(Check.STATE, porter::undo);
-        Check.fails(Check.NO_SUCH, () -> porter.restoreSnapshot(0));
-        Check.fails(Check.NO_SUCH, () -> porter.restoreSnapshot(1));
-        Check.fails(Check.INDEX, () -> porter.writtenByte(0));
+        Check.same(0, porter.shorten(0));
+        Check.same(20, appendBlanks(porter));
+    }
+
+    static void promise1HasNoError() {
+        NightPorter porter = new NightPorter();
+        Check.no(porter.hasError());
+        Check.fails(Check.NO_SUCH, porter::errorOffset);
+    }
+
+    static void promise1HasNoSnapshots() {
+        Twins.refuse(Check.NO_SUCH, NightPorter::new, porter -> porter.restoreSnapshot(0));
+        Twins.refuse(Check.NO_SUCH, NightPorter::new, porter -> porter.restoreSnapshot(1));
+    }
+
+    static void promise1HasNoWrittenText() {
+        Check.fails(Check.INDEX, () -> new NightPorter().writtenByte(0));
+    }
+
+    static void promise1HasNothingToUndo() {
+        Twins.refuse(Check.STATE, NightPorter::new, NightPorter::undo);
+    }
+
+    static void promise1RegisterIsEmpty() {
+        NightPorter porter = new NightPorter();
+        Check.same(0, porter.entryCount());
+        Check.fails(Check.INDEX, () -> porter.entryMinute(0));
     }
 
     static void promise1ObjectsAreApart() {
-        NightPorter one = new NightPorter();
-        NightPorter other = new NightPorter();
-        one.leave(0);
-        one.setRain(9);
-        Check.same(Check.state(new NightPorter()), Check.state(other));
+        Twins.alike(NightPorter::new, () -> {
+            NightPorter one = new NightPorter();
+            Nights.busy();
+            return one;
+        });
     }
 
-    static void promise2AppendTakesBytesInOrder() {
+    // Promise 2
+
+    static void promise2MostSignificantByteIsFirst() {
         NightPorter porter = new NightPorter();
-        Check.same(20, porter.append(0x6162636b, 0x0a207879, 0x7a616161, 0x64646464, 0x65656566));
-        Check.same(40, porter.append(0, 0, 0, 0, 0));
+        porter.append(0x6162636b, 0x0a207879, 0x7a616161, 0x64646464, 0x65656566);
         porter.shorten(4);
-        Check.fails(Check.NO_SUCH, porter::guestOfInput);
         porter.addGuest(1, 2);
         Check.same("abck", Check.name(porter, 3));
     }
 
-    static void promise2AppendPlacesAllFiveParameters() {
-        int blank = 0x20202020;
+    static void promise2FourBytesOfEachParameterInOrder() {
+        NightPorter porter = new NightPorter();
+        // "night 1 2;guest bc 4" and then " dog 5;"
+        porter.append(0x6e696768, 0x74203120, 0x323b6775, 0x65737420, 0x62632034);
+        porter.append(0x20646f67, 0x20353b20, BLANKS, BLANKS, BLANKS);
+        Check.same(1, porter.load());
+        Check.same(1, porter.rain());
+        Check.same(2, porter.noiseLimit());
+        Check.same("bc", Check.name(porter, 0));
+        Check.same(4, porter.generosity(0));
+        Check.same(5, porter.bark(0));
+    }
+
+    static void promise2EachParameterHasItsPlace() {
         int word = 0x6e696768;
         NightPorter porter = new NightPorter();
         for (int place = 0; place < 5; place++) {
-            porter.shorten(0);
-            porter.append(place == 0 ? word : blank, place == 1 ? word : blank, place == 2 ? word : blank,
-                place == 3 ? word : blank, place == 4 ? word : blank);
+            porter.append(place == 0 ? word : BLANKS, place == 1 ? word : BLANKS, place == 2 ? word : BLANKS,
+                place == 3 ? word : BLANKS, place == 4 ? word : BLANKS);
             Check.fails(Check.ARGUMENT, porter::load);
             Check.same(4 * place, porter.errorOffset());
         }
     }
 
-    static void promise2AppendNegativeParameters() {
+    static void promise2EachByteHasItsPlace() {
         NightPorter porter = new NightPorter();
-        Check.same(20, porter.append(-1, Integer.MIN_VALUE, 0x80808080, -2, 0x20202020));
-        Check.fails(Check.ARGUMENT, porter::load);
-        Check.same(0, porter.errorOffset());
-    }
-
-    static void promise2AppendUpTo600() {
-        NightPorter porter = new NightPorter();
-        for (int length = 20; length <= 600; length += 20) {
-            Check.same(length, porter.append(0x20202020, 0x20202020, 0x20202020, 0x20202020, 0x20202020));
+        for (int place = 0; place < 20; place++) {
+            Check.type(porter, " ".repeat(place) + "#" + " ".repeat(19 - place));
+            Check.fails(Check.ARGUMENT, porter::load);
+            Check.same(place, porter.errorOffset());
         }
-        Check.fails(Check.STATE, () -> porter.append(0, 0, 0, 0, 0));
-        Check.same(581, porter.shorten(581));
-        Check.fails(Check.STATE, () -> porter.append(0, 0, 0, 0, 0));
-        Check.same(580, porter.shorten(580));
-        Check.same(600, porter.append(0, 0, 0, 0, 0));
-        Check.fails(Check.ARGUMENT, porter::load);
-        Check.same(580, porter.errorOffset());
     }
 
-    static void promise3Shorten() {
+    static void promise2BytesOver127StayWhatTheyAre() {
         NightPorter porter = new NightPorter();
-        Check.append(porter, "bobby");
-        Check.fails(Check.ARGUMENT, () -> porter.shorten(6));
-        Check.fails(Check.ARGUMENT, () -> porter.shorten(-1));
-        Check.fails(Check.ARGUMENT, () -> porter.shorten(Integer.MIN_VALUE));
-        Check.fails(Check.ARGUMENT, () -> porter.shorten(Integer.MAX_VALUE));
-        Check.same(5, porter.shorten(5));
-        Check.same(3, porter.shorten(3));
-        Check.same(1, porter.guestOfInput());
-        Check.same(0, porter.shorten(0));
-        Check.fails(Check.ARGUMENT, () -> porter.shorten(1));
-    }
-
-    static void promise3ShortenedBytesDoNotReturn() {
-        NightPorter porter = new NightPorter();
-        Check.append(porter, "bobby");
-        porter.shorten(1);
-        porter.append(0x6f622020, 0, 0, 0, 0);
+        // 0x62 0x6f 0x62 is "bob"; with the sign bit set these bytes are no letters.
+        porter.append(0xe2efe2e2, BLANKS, BLANKS, BLANKS, BLANKS);
+        porter.shorten(3);
+        Check.fails(Check.NO_SUCH, porter::guestOfInput);
+        Check.fails(Check.ARGUMENT, () -> porter.addGuest(1, 1));
+        porter.shorten(0);
+        porter.append(0x626f62e2, BLANKS, BLANKS, BLANKS, BLANKS);
         porter.shorten(3);
         Check.same(1, porter.guestOfInput());
     }
 
-    static void promise4LoadReplacesAll() {
-        NightPorter porter = busyPorter();
-        Check.type(porter, "night 3 7;guest eve 1 dog 9;guest max 0;umbrella max 99;");
-        Check.same(2, porter.load());
-        Check.same("[0, 3, 7, 0, 0, 0, 0, 0, 0, guest, eve, 1, 9, false, 0, false, 0,"
-            + " guest, max, 0, 0, false, 0, false, 0, umbrella, 1, 99, true]", Check.state(porter));
-        Check.same(0, porter.entryCount());
-        Check.fails(Check.STATE, porter::undo);
-        Check.fails(Check.NO_SUCH, () -> porter.restoreSnapshot(0));
-        Check.fails(Check.NO_SUCH, () -> porter.restoreSnapshot(1));
-        Check.fails(Check.ARGUMENT, () -> porter.shorten(1));
-        Check.no(porter.hasError());
+    static void promise2NegativeNumberIsFourBytesToo() {
+        NightPorter porter = new NightPorter();
+        Check.same(20, porter.append(-1, Integer.MIN_VALUE, 0xff626f62, -2, Integer.MAX_VALUE));
+        Check.same(11, porter.shorten(11));
+        Check.fails(Check.ARGUMENT, porter::load);
+        Check.same(0, porter.errorOffset());
     }
 
-    static void promise4LoadKeepsTheWrittenText() {
-        NightPorter porter = busyPorter();
-        Check.same(3, porter.writeEntries(0));
+    static void promise2AnswersTheNewLength() {
+        NightPorter porter = new NightPorter();
+        for (int length = 20; length <= 600; length += 20) {
+            Check.same(length, appendBlanks(porter));
+        }
+        porter.shorten(33);
+        Check.same(53, appendBlanks(porter));
+        porter.shorten(0);
+        Check.same(20, appendBlanks(porter));
+    }
+
+    static void promise2LengthOf600IsTaken() {
+        Check.same(600, appendBlanks(withInput(580)));
+        Check.same(599, appendBlanks(withInput(579)));
+    }
+
+    static void promise2LengthOver600IsRefused() {
+        for (int length : new int[] {581, 582, 599, 600}) {
+            Twins.refuse(Check.STATE, () -> withInput(length), porter -> porter.append(1, 2, 3, 4, 5));
+        }
+    }
+
+    static void promise2RefusedAppendKeepsTheText() {
+        String text = Nights.FIRST_TEXT + " ".repeat(600 - Nights.FIRST_TEXT.length());
+        NightPorter porter = new NightPorter();
+        Check.type(porter, text);
+        Check.fails(Check.STATE, () -> porter.append(-1, -1, -1, -1, -1));
+        Check.same(3, porter.load());
+    }
+
+    static void promise2WritesOverShortenedBytes() {
+        NightPorter porter = new NightPorter();
+        Check.append(porter, "bobby");
+        porter.shorten(1);
+        Check.append(porter, "ob");
+        Check.same(1, porter.guestOfInput());
+    }
+
+    // Promise 3
+
+    static void promise3KeepsTheFirstBytes() {
+        NightPorter porter = new NightPorter();
+        Check.append(porter, "bobby");
+        Check.same(3, porter.shorten(3));
+        Check.same(1, porter.guestOfInput());
+    }
+
+    static void promise3OwnLengthIsTaken() {
+        Twins.sameAfter(() -> withInput(5), porter -> Check.same(5, porter.shorten(5)));
+        Twins.sameAfter(() -> withInput(600), porter -> Check.same(600, porter.shorten(600)));
+        Twins.sameAfter(() -> withInput(0), porter -> Check.same(0, porter.shorten(0)));
+    }
+
+    static void promise3LengthOfZeroIsTaken() {
+        Twins.alike(() -> withInput(0), Twins.made(() -> withInput(5), porter -> Check.same(0, porter.shorten(0))));
+    }
+
+    static void promise3NegativeLengthIsRefused() {
+        for (int length : new int[] {-1, -2, -600, Integer.MIN_VALUE}) {
+            Twins.refuse(Check.ARGUMENT, () -> withInput(5), porter -> porter.shorten(length));
+            Twins.refuse(Check.ARGUMENT, () -> withInput(0), porter -> porter.shorten(length));
+        }
+    }
+
+    static void promise3LengthOverItsOwnIsRefused() {
+        for (int length : new int[] {6, 20, 600, 601, Integer.MAX_VALUE}) {
+            Twins.refuse(Check.ARGUMENT, () -> withInput(5), porter -> porter.shorten(length));
+        }
+        Twins.refuse(Check.ARGUMENT, () -> withInput(0), porter -> porter.shorten(1));
+        Twins.refuse(Check.ARGUMENT, () -> withInput(600), porter -> porter.shorten(601));
+    }
+
+    static void promise3ShortenedBytesDoNotComeBack() {
+        NightPorter porter = withInput(10);
+        porter.shorten(4);
+        Check.fails(Check.ARGUMENT, () -> porter.shorten(5));
+    }
+
+    // Promise 4
+
+    static void promise4AnswersTheNumberOfGuests() {
+        NightPorter porter = new NightPorter();
         Check.type(porter, "night 3 7;");
         Check.same(0, porter.load());
+        Check.type(porter, "night 3 7;guest eve 1;");
+        Check.same(1, porter.load());
+        StringBuilder text = new StringBuilder("night 3 7;");
+        for (char name = 'a'; name <= 'j'; name++) {
+            text.append("guest ").append(name).append(" 1;");
+        }
+        Check.type(porter, text.toString());
+        Check.same(10, porter.load());
+        Check.same(10, porter.guestCount());
+    }
+
+    static void promise4BufferIsEmptyAfterwards() {
+        Check.fails(Check.ARGUMENT, () -> Check.loaded("night 3 7;").shorten(1));
+        Check.same(20, appendBlanks(Check.loaded("night 3 7;")));
+    }
+
+    static void promise4BufferIsEmptyAfterAnErrorToo() {
+        NightPorter porter = new NightPorter();
+        Check.type(porter, "night 3 7");
+        Check.fails(Check.ARGUMENT, porter::load);
+        Check.fails(Check.ARGUMENT, () -> porter.shorten(1));
+        Check.same(20, appendBlanks(porter));
+    }
+
+    static void promise4EverythingButTheWrittenTextIsReplaced() {
+        String text = "night 3 7;guest eve 1 dog 9;guest max 0;umbrella max 99;";
+        Twins.alike(() -> Check.loaded(text), () -> {
+            NightPorter porter = new NightPorter();
+            busyButForWriting(porter);
+            Check.type(porter, text);
+            Check.same(2, porter.load());
+            return porter;
+        });
+    }
+
+    private static void busyButForWriting(NightPorter porter) {
+        porter.saveSnapshot(0);
+        porter.saveSnapshot(1);
+        porter.leave(0);
+        porter.passMinutes(70);
+        porter.walkDog(0);
+        porter.leave(1);
+        porter.leave(2);
+        porter.passMinutes(11);
+        porter.comeBack(2);
+    }
+
+    static void promise4MinuteAndAllCountsAreZero() {
+        NightPorter porter = new NightPorter();
+        busyButForWriting(porter);
+        Check.yes(porter.minute() > 0);
+        Check.yes(porter.noise() > 0);
+        Check.yes(porter.complaints() > 0);
+        Check.yes(porter.puddle() > 0);
+        Check.yes(porter.tips() > 0);
+        Check.type(porter, Nights.FIRST_TEXT);
+        porter.load();
+        Check.same(0, porter.minute());
+        Check.same(0, porter.noise());
+        Check.same(0, porter.complaints());
+        Check.same(0, porter.puddle());
+        Check.same(0, porter.tips());
+        Check.same(0, porter.yawn());
+        Check.same(0, porter.keysAtDesk());
+        Check.same(0, porter.minutesOut(0));
+    }
+
+    static void promise4RegisterIsEmptyAfterwards() {
+        NightPorter porter = Nights.fullRegister();
+        Check.type(porter, Nights.FIRST_TEXT);
+        porter.load();
+        Check.same(0, porter.entryCount());
+        Check.fails(Check.INDEX, () -> porter.entryMinute(0));
+        Check.same(1, porter.leave(0));
+    }
+
+    static void promise4NothingCanBeUndoneAfterwards() {
+        NightPorter porter = Nights.busy();
+        Check.type(porter, Nights.FIRST_TEXT);
+        porter.load();
+        Check.fails(Check.STATE, porter::undo);
+        porter.setRain(4);
+        Check.same(0, porter.undo());
+        Check.same(2, porter.rain());
+    }
+
+    static void promise4BothSlotsAreEmptyAfterwards() {
+        NightPorter porter = Nights.busy();
+        Check.type(porter, Nights.FIRST_TEXT);
+        porter.load();
+        Check.fails(Check.NO_SUCH, () -> porter.restoreSnapshot(0));
+        Check.fails(Check.NO_SUCH, () -> porter.restoreSnapshot(1));
+    }
+
+    static void promise4KeepsTheWrittenText() {
+        NightPorter porter = new NightPorter();
+        porter.leave(0);
+        Check.same(3, porter.writeEntries(0));
+        Check.type(porter, "night 3 7;");
+        porter.load();
         Check.same('-', porter.writtenByte(0));
         Check.same('0', porter.writtenByte(1));
         Check.same(10, porter.writtenByte(2));
+        Check.fails(Check.INDEX, () -> porter.writtenByte(3));
+    }
+
+    static void promise4GuestsAreInAndUmbrellasInTheStand() {
+        NightPorter porter = Nights.busy();
+        Check.type(porter, Nights.FIRST_TEXT);
+        porter.load();
+        for (int number = 0; number < 3; number++) {
+            Check.no(porter.isOut(number));
+            Check.same(0, porter.soak(number));
+            Check.yes(porter.isInStand(number));
+        }
     }
 
     static void promise4LoadedDogWasNeverWalked() {
@@ -132,189 +346,72 @@ final class InputTests {
     }
 
     static void promise4WrongTextChangesNothingElse() {
-        NightPorter porter = busyPorter();
-        String before = Check.state(porter);
-        Check.type(porter, "night 3 7;guest eve 1 dog 9;guest eve 0;");
-        Check.fails(Check.ARGUMENT, porter::load);
-        Check.same(before, Check.state(porter));
-        Check.fails(Check.ARGUMENT, () -> porter.shorten(1));
-        Check.same(0, porter.restoreSnapshot(1));
-        Check.same(2, porter.undo());
-        Check.same(before, Check.state(porter));
+        // The error stands at the very end, when all the rest has been read.
+        for (String text : new String[] {"", "night 3 7;guest eve 1 dog 9;umbrella eve 1;guest max 0;"}) {
+            Twins.alikeButForInputAndError(Nights::busy, Twins.made(Nights::busy, porter -> {
+                Check.type(porter, text);
+                Check.fails(Check.ARGUMENT, porter::load);
+            }));
+        }
     }
 
-    private static NightPorter busyPorter() {
+    static void promise4RightTextAfterAWrongOne() {
+        Twins.alike(() -> Check.loaded("night 3 7;guest eve 1 dog 9;"), () -> {
+            NightPorter porter = new NightPorter();
+            Check.type(porter, "night 9 999;guest abe 9 dog 9;guest eve 2;umbrella eve 99;umbrella abe;");
+            Check.fails(Check.ARGUMENT, porter::load);
+            Check.type(porter, "night 3 7;guest eve 1 dog 9;");
+            porter.load();
+            return porter;
+        });
+    }
+
+    // Promise 5
+
+    static void promise5NoErrorBeforeTheFirstLoad() {
+        NightPorter porter = new NightPorter();
+        Check.type(porter, "no text");
+        Check.no(porter.hasError());
+    }
+
+    static void promise5ErrorAfterAWrongText() {
+        NightPorter porter = new NightPorter();
+        Check.fails(Check.ARGUMENT, porter::load);
+        Check.yes(porter.hasError());
+    }
+
+    static void promise5OnlyTheLatestLoadCounts() {
+        NightPorter porter = new NightPorter();
+        Check.fails(Check.ARGUMENT, porter::load);
+        Check.type(porter, "night 1 1;");
+        Check.yes(porter.hasError());
+        porter.load();
+        Check.no(porter.hasError());
+        Check.fails(Check.ARGUMENT, porter::load);
+        Check.yes(porter.hasError());
+    }
+
+    static void promise5OtherCallsKeepTheError() {
         NightPorter porter = new NightPorter();
         porter.saveSnapshot(0);
-        porter.saveSnapshot(1);
-        porter.leave(0);
-        porter.passMinutes(70);
-        return porter;
-    }
-
-    static void promise4AllowedTexts() {
-        Check.same(0, Check.loaded("night 0 0;").guestCount());
-        Check.same(999, Check.loaded("night 9 999;").noiseLimit());
-        Check.same(9, Check.loaded(" \nnight009 0\n; \n").rain());
-        Check.same("[0, 1, 1, 0, 0, 0, 0, 0, 0, guest, a, 0, 9, false, 0, false, 0,"
-            + " guest, dog, 9, 1, false, 0, false, 0, guest, guest, 1, 0, false, 0, false, 0,"
-            + " guest, night, 1, 0, false, 0, false, 0, umbrella, 2, 0, true, umbrella, 0, 99, true]",
-            Check.state(Check.loaded("night1 001;guest a0dog 9;guest dog 9dog 01;guest\nguest 1;guest night 1;"
-                + "umbrella guest 0;umbrella a 099;")));
-    }
-
-    static void promise4MostGuestsAndUmbrellas() {
-        NightPorter porter = Check.loaded(tenGuests() + umbrellas(12));
-        Check.same(10, porter.guestCount());
-        Check.same(12, porter.umbrellaCount());
-        Check.same("j", Check.name(porter, 9));
-        Check.same(11, porter.wetness(11));
-    }
-
-    private static String tenGuests() {
-        StringBuilder text = new StringBuilder(HEAD);
-        for (char name = 'a'; name <= 'j'; name++) {
-            text.append("guest ").append(name).append(" 1;");
-        }
-        return text.toString();
-    }
-
-    private static String umbrellas(int count) {
-        StringBuilder text = new StringBuilder();
-        for (int i = 0; i < count; i++) {
-            text.append("umbrella a ").append(i).append(";");
-        }
-        return text.toString();
-    }
-
-    static void promise5HasError() {
-        NightPorter porter = new NightPorter();
-        Check.no(porter.hasError());
-        Check.type(porter, "night");
-        Check.no(porter.hasError());
         Check.fails(Check.ARGUMENT, porter::load);
-        Check.yes(porter.hasError());
-        Check.type(porter, HEAD);
         porter.setRain(1);
         porter.undo();
+        porter.restoreSnapshot(0);
+        porter.writeEntries(0);
+        Check.addGuest(porter, "dan", 1, 1);
         Check.yes(porter.hasError());
-        porter.load();
-        Check.no(porter.hasError());
-    }
-
-    static void promise6ErrorOffsetOnlyWithError() {
-        NightPorter porter = new NightPorter();
-        Check.fails(Check.NO_SUCH, porter::errorOffset);
-        error(0, "");
-        Check.type(porter, "day");
-        Check.fails(Check.ARGUMENT, porter::load);
         Check.same(0, porter.errorOffset());
-        Check.type(porter, HEAD);
-        porter.load();
-        Check.fails(Check.NO_SUCH, porter::errorOffset);
     }
 
-    private static void error(int offset, String text) {
+    static void promise5OtherCallsMakeNoError() {
         NightPorter porter = new NightPorter();
-        Check.type(porter, text);
-        Check.fails(Check.ARGUMENT, porter::load);
-        Check.same(offset, porter.errorOffset());
-    }
-
-    static void promise6TextEndsTooEarly() {
-        String whole = "night 2 90;guest ann 5 dog 4;umbrella ann 60;";
-        for (int end = whole.indexOf(' '); end >= 0; end = whole.indexOf(' ', end + 1)) {
-            error(end, whole.substring(0, end));
-            error(end + 3, whole.substring(0, end) + " \n ");
-        }
-        error(3, "   ");
-        error(10, "night 2 90");
-        error(44, "night 2 90;guest ann 5 dog 4;umbrella ann 60");
-    }
-
-    static void promise6WrongWords() {
-        error(0, "nigh 2 90;");
-        error(0, "nights 2 90;");
-        error(1, " guest ann 5;");
-        error(0, "2 90;");
-        error(11, HEAD + "guests ann 5;");
-        error(11, HEAD + "guestann 5;");
-        error(11, HEAD + "night 2 90;");
-        error(11, HEAD + ";");
-        error(23, HEAD + "guest ann 5 cat 4;");
-        error(29, HEAD + "guest ann 5 dog 4 dog 4;");
-        error(38, HEAD + "guest ann 5;umbrella ann 0;guest bob 5;");
-        error(23, HEAD + "guest ann 5;umbrell ann 0;");
-    }
-
-    static void promise6WrongNames() {
-        error(17, HEAD + "guest abcdef 5;");
-        error(17, HEAD + "guest 5 5;");
-        error(17, HEAD + "guest ;");
-        error(29, HEAD + "guest ann 5;guest ann 5;");
-        Check.loaded(HEAD + "guest ann 5;guest anna 5;guest an 5;");
-        error(20, HEAD + "umbrella ann 0;guest ann 5;");
-        error(32, HEAD + "guest ann 5;umbrella bob 0;");
-        error(32, HEAD + "guest ann 5;umbrella anna 0;");
-        error(32, HEAD + "guest ann 5;umbrella an 0;");
-        error(32, HEAD + "guest ann 5;umbrella 7 0;");
-    }
-
-    static void promise6NumbersOutOfRange() {
-        error(6, "night 10 90;");
-        error(6, "night 0002 90;");
-        error(8, "night 2 1000;");
-        error(8, "night 2 99999999999999999999;");
-        error(6, "night -2 90;");
-        error(9, "night 2 9a;");
-        error(21, HEAD + "guest ann 10;");
-        error(27, HEAD + "guest ann 5 dog 0;");
-        error(27, HEAD + "guest ann 5 dog 10;");
-        error(36, HEAD + "guest ann 5;umbrella ann 100;");
-        error(26, HEAD + "guest ann 5 dog;");
-        error(21, HEAD + "guest ann dog 5;");
-    }
-
-    static void promise6SemicolonTooEarly() {
-        error(0, ";");
-        error(6, "night ;");
-        error(8, "night 2 ;");
-        error(16, HEAD + "guest;");
-        error(20, HEAD + "guest ann;");
-        error(26, HEAD + "guest ann 5 dog;");
-        error(31, HEAD + "guest ann 5;umbrella;");
-        error(35, HEAD + "guest ann 5;umbrella ann;");
-        error(38, HEAD + "guest ann 5;umbrella ann 0;;");
-    }
-
-    static void promise6TextOf600Bytes() {
-        String blanks = " ".repeat(589);
-        Check.same(0, Check.loaded(HEAD + blanks).guestCount());
-        error(600, HEAD + blanks.substring(5) + "guest");
-        error(600, "night" + " ".repeat(592) + "2 9");
-        error(11, HEAD + "a".repeat(589));
-        error(6, "night " + "1".repeat(594));
-    }
-
-    static void promise6InvalidTokens() {
-        error(5, "night\t2 90;");
-        error(5, "night\r2 90;");
-        error(0, "Night 2 90;");
-        error(11, HEAD + "#");
-        error(12, HEAD + " \u0000");
-        error(11, HEAD + "\u00e9");
-        error(18, HEAD + "guest a:n 5;");
-        error(17, HEAD + "guest `ann 5;");
-        error(17, HEAD + "guest {ann 5;");
-        error(21, HEAD + "guest ann /5;");
-        error(21, HEAD + "guest ann :5;");
-        error(11, HEAD + "<");
-    }
-
-    static void promise6EleventhGuestAndThirteenthUmbrella() {
-        String guests = tenGuests();
-        error(guests.length() + 1, guests + " guest k 1;");
-        String full = guests + umbrellas(12);
-        error(full.length(), full + "umbrella a 1;");
+        porter.saveSnapshot(0);
+        porter.setRain(1);
+        porter.undo();
+        porter.restoreSnapshot(0);
+        Check.fails(Check.ARGUMENT, () -> porter.addGuest(1, 1));
+        Check.fails(Check.STATE, () -> porter.comeBack(0));
+        Check.no(porter.hasError());
     }
 }
