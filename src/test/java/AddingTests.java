@@ -88,6 +88,22 @@ final class AddingTests {
         }
     }
 
+    static void promise50OnlyLettersMakeAName() {
+        for (int other = 0; other < 256; other++) {
+            if (other < 'a' || other > 'z') {
+                NightPorter porter = withInput("a" + (char) other);
+                Check.fails(Check.ARGUMENT, () -> porter.addGuest(1, 1));
+            }
+        }
+    }
+
+    static void promise50EachPlaceOfANameIsLookedAt() {
+        for (String name : new String[] {" bcde", "a cde", "ab de", "abc e", "abcd "}) {
+            NightPorter porter = withInput(name);
+            Check.fails(Check.ARGUMENT, () -> porter.addGuest(1, 1));
+        }
+    }
+
     static void promise50WordsOfTheTextFormatAreNames() {
         for (String name : new String[] {"night", "guest", "dog"}) {
             NightPorter porter = withInput(name);

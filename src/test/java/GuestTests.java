@@ -362,8 +362,9 @@ final class GuestTests {
         porter.leave(0);
         porter.walkDog(0);
         porter.comeBack(0);
+        porter.passMinutes(20);
         porter.leave(0);
-        porter.passMinutes(58);
+        porter.passMinutes(38);
         Check.no(porter.wouldBark(0));
         porter.passMinutes(1);
         Check.yes(porter.wouldBark(0));

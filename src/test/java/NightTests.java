@@ -142,10 +142,10 @@ final class NightTests {
         porter.comeBack(0);
         porter.passMinutes(20);
         porter.leave(0);
-        porter.passMinutes(39);
-        Check.same(60, porter.minute());
+        porter.passMinutes(38);
+        Check.same(59, porter.minute());
         Check.same(0, porter.noise());
-        porter.passMinutes(1);
+        porter.passMinutes(2);
         Check.same(9, porter.noise());
     }
 

@@ -55,8 +55,10 @@ final class Nights {
     }
 
     static void passTo(NightPorter porter, int minute) {
-        while (porter.minute() < minute) {
-            porter.passMinutes(Math.min(240, minute - porter.minute()));
+        int step = 0;
+        for (int passed = porter.minute(); passed < minute; passed += step) {
+            step = Math.min(240, minute - passed);
+            porter.passMinutes(step);
         }
     }
 

@@ -85,7 +85,7 @@ final class Twins {
     private static String writtenText(NightPorter porter) {
         StringBuilder text = new StringBuilder("written ");
         String sign = answer(() -> porter.writtenByte(0));
-        for (int index = 1; !sign.startsWith("java"); index++) {
+        for (int index = 1; index <= 600 && !sign.startsWith("java"); index++) {
             int next = index;
             text.append(sign);
             sign = answer(() -> porter.writtenByte(next));

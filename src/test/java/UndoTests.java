@@ -275,4 +275,51 @@ final class UndoTests {
             porter.wouldBark(0);
         });
     }
+
+    /** Terms 8: a call that throws an exception changes nothing. */
+    static void promise58RefusedAskingChangesNothing() {
+        Twins.sameAfter(Nights::busy, porter -> {
+            Check.fails(Check.INDEX, () -> porter.nameLength(3));
+            Check.fails(Check.INDEX, () -> porter.nameByte(0, 3));
+            Check.fails(Check.NO_SUCH, porter::guestOfInput);
+            Check.fails(Check.INDEX, () -> porter.generosity(3));
+            Check.fails(Check.INDEX, () -> porter.bark(3));
+            Check.fails(Check.INDEX, () -> porter.isOut(3));
+            Check.fails(Check.INDEX, () -> porter.outSince(3));
+            Check.fails(Check.NO_SUCH, () -> porter.outSince(2));
+            Check.fails(Check.INDEX, () -> porter.soak(3));
+            Check.fails(Check.INDEX, () -> porter.wouldBark(3));
+            Check.fails(Check.INDEX, () -> porter.ownerOf(4));
+            Check.fails(Check.INDEX, () -> porter.wetness(4));
+            Check.fails(Check.INDEX, () -> porter.isInStand(4));
+            Check.fails(Check.INDEX, () -> porter.isUsable(4));
+            Check.fails(Check.INDEX, () -> porter.carrierOf(4));
+            Check.fails(Check.NO_SUCH, () -> porter.carrierOf(0));
+            Check.fails(Check.INDEX, () -> porter.umbrellaOf(3));
+            Check.fails(Check.NO_SUCH, () -> porter.umbrellaOf(2));
+            Check.fails(Check.INDEX, () -> porter.entryMinute(4));
+            Check.fails(Check.INDEX, () -> porter.entryGuest(4));
+            Check.fails(Check.INDEX, () -> porter.isLeaving(4));
+        });
+    }
+
+    static void promise58RefusedInquiriesChangeNothing() {
+        Twins.sameAfter(Nights::busy, porter -> {
+            Check.fails(Check.INDEX, () -> porter.wasOut(3, 0));
+            Check.fails(Check.ARGUMENT, () -> porter.wasOut(0, 96));
+            Check.fails(Check.INDEX, () -> porter.hasAlibi(3, 0, 0));
+            Check.fails(Check.ARGUMENT, () -> porter.hasAlibi(0, 0, 96));
+            Check.fails(Check.ARGUMENT, () -> porter.suspects(0, 96));
+            Check.fails(Check.ARGUMENT, () -> porter.culprit(0, 96));
+            Check.fails(Check.NO_SUCH, () -> porter.culprit(0, 95));
+            Check.fails(Check.INDEX, () -> porter.minutesOut(3));
+            Check.fails(Check.INDEX, () -> porter.minutesTogether(0, 3));
+            Check.fails(Check.INDEX, () -> porter.umbrellaFor(3));
+            Check.fails(Check.STATE, () -> porter.umbrellaFor(0));
+            Check.fails(Check.INDEX, () -> porter.tipOf(3));
+            Check.fails(Check.STATE, () -> porter.tipOf(2));
+            Check.fails(Check.ARGUMENT, () -> porter.complaintsAfter(241));
+            Check.fails(Check.INDEX, () -> porter.writtenByte(600));
+        });
+    }
 }
