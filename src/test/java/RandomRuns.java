@@ -153,6 +153,10 @@ final class RandomRuns {
     }
 
     private void call(String name, Object... numbers) throws ReflectiveOperationException {
+        // What later calls answer is free.
+        if (played.size() == CALLS) {
+            return;
+        }
         played.add(name + Arrays.toString(numbers));
         Object due = answer(model, name, numbers);
         Object got = answer(porter, name, numbers);
