@@ -10,7 +10,7 @@ public final class AllTests {
         InputTests.class, TextTests.class, NightTests.class, GuestTests.class, UmbrellaTests.class,
         RegisterTests.class, AlibiTests.class, PredictionTests.class, AddingTests.class, ComingAndGoingTests.class,
         SettingTests.class, UndoTests.class, SnapshotTests.class, WritingTests.class, FaceTests.class,
-        RandomRuns.class};
+        ReadmeTests.class, RandomRuns.class};
 
     private static final boolean[] TESTED = new boolean[PROMISES + 1];
     private static int passed = 0;
